@@ -48,7 +48,7 @@ final class PromiseTest {
         Check.due("new: end(0)", x.end(0), 0);
         Check.due("new: end(1)", x.end(1), 0);
         Check.due("new: end(2)", x.end(2), 0);
-        words("new", x, -1, new int[8]);
+        Check.digest("new", x, -1, new int[8]);
         Check.due("new: verify(-1, 0): nothing fits an empty map", x.verify(-1, 0), 0);
         Check.due("new: size(0)", x.size(0), BAD);
         Check.due("new: get(-1, 0)", x.get(-1, 0), NONE);
@@ -105,12 +105,12 @@ final class PromiseTest {
         Check.due("size(-1) after remove", x.size(-1), 2);
         Check.due("remove(0)", x.remove(0), 1);
         Check.due("get(-1, 1) stays", x.get(-1, 1), 2);
-        words("one entry is left", x, -1, Model.one(1, 2));
+        Check.digest("one entry is left", x, -1, Model.one(1, 2));
         for (int key : NO_KEYS) {
             Check.due("remove(" + key + ")", x.remove(key), BAD);
         }
         Check.due("remove(1)", x.remove(1), 1);
-        words("none is left", x, -1, new int[8]);
+        Check.digest("none is left", x, -1, new int[8]);
         Check.due("size(-1) of none", x.size(-1), 0);
     }
 
@@ -167,9 +167,9 @@ final class PromiseTest {
         Check.due("commit() of the same", x.commit(), 2);
         x.put(1, 2);
         x.put(2, 2);
-        words("version 0", x, 0, new int[8]);
-        words("version 1", x, 1, Model.one(1, 1));
-        words("version 2", x, 2, Model.one(1, 1));
+        Check.digest("version 0", x, 0, new int[8]);
+        Check.digest("version 1", x, 1, Model.one(1, 1));
+        Check.digest("version 2", x, 2, Model.one(1, 1));
         Check.due("get(1, 1) stays", x.get(1, 1), 1);
         Check.due("size(-1) after commit() goes on", x.size(-1), 2);
     }
@@ -228,13 +228,13 @@ final class PromiseTest {
         Check.due("word(-1, 0)", x.word(-1, 0), -411307012);
         Check.due("word(-1, 3)", x.word(-1, 3), -599324835);
         Check.due("word(-1, 7)", x.word(-1, 7), 848534137);
-        words("one entry", x, -1, Model.one(5, -1));
+        Check.digest("one entry", x, -1, Model.one(5, -1));
         x.commit();
         x.put(32768, 6);
-        words("two entries", x, -1, Model.more(Model.one(5, -1), Model.one(32768, 6)));
-        words("the version stays", x, 0, Model.one(5, -1));
+        Check.digest("two entries", x, -1, Model.more(Model.one(5, -1), Model.one(32768, 6)));
+        Check.digest("the version stays", x, 0, Model.one(5, -1));
         x.put(32768, 7);
-        words("another value", x, -1, Model.more(Model.one(5, -1), Model.one(32768, 7)));
+        Check.digest("another value", x, -1, Model.more(Model.one(5, -1), Model.one(32768, 7)));
         for (int i : NO_WORDS) {
             Check.due("word(-1, " + i + ")", x.word(-1, i), 0);
             Check.due("word(0, " + i + ")", x.word(0, i), 0);
@@ -272,31 +272,31 @@ final class PromiseTest {
         for (int i = 0; i < 15; i++) {
             chain = Model.more(new int[8], chain);
         }
-        words("two keys alike at 15 bits", z, -1, chain);
+        Check.digest("two keys alike at 15 bits", z, -1, chain);
     }
 
     /** Promise 9. */
     private static void prove() {
         ProofMap x = new ProofMap();
         Check.due("prove(-1, 0) of nothing", x.prove(-1, 0), 0);
-        proofEnd("nothing", x, 0, 0, 0);
+        Check.proofEnd("nothing", x, 0, 0, 0);
         x.put(0, 10);
         Check.due("prove(-1, 65535) beside one entry", x.prove(-1, 65535), 0);
-        proofEnd("one entry, another key's", x, 1, 0, 10);
+        Check.proofEnd("one entry, another key's", x, 1, 0, 10);
         x.commit();
         x.put(1, 11);
         x.put(65535, 12);
         Check.due("prove(-1, 0)", x.prove(-1, 0), 16);
-        proofEnd("0", x, 1, 0, 10);
-        siblingWords("first", x, 0, Model.one(65535, 12));
-        siblingWords("second", x, 1, new int[8]);
-        siblingWords("last", x, 15, Model.one(1, 11));
+        Check.proofEnd("0", x, 1, 0, 10);
+        Check.siblingWords("first", x, 0, Model.one(65535, 12));
+        Check.siblingWords("second", x, 1, new int[8]);
+        Check.siblingWords("last", x, 15, Model.one(1, 11));
         Check.due("prove(-1, 16384)", x.prove(-1, 16384), 2);
-        proofEnd("16384", x, 0, 0, 0);
+        Check.proofEnd("16384", x, 0, 0, 0);
         Check.due("prove(-1, 40000)", x.prove(-1, 40000), 1);
-        proofEnd("40000", x, 1, 65535, 12);
+        Check.proofEnd("40000", x, 1, 65535, 12);
         Check.due("prove(0, 1)", x.prove(0, 1), 0);
-        proofEnd("1 in version 0", x, 1, 0, 10);
+        Check.proofEnd("1 in version 0", x, 1, 0, 10);
     }
 
     /** Promise 9: neither BAD nor what the map becomes changes the proof at hand. */
@@ -317,8 +317,8 @@ final class PromiseTest {
         x.put(32768, 21);
         x.remove(0);
         Check.due("siblings() of the old proof", x.siblings(), 1);
-        siblingWords("old proof", x, 0, Model.one(32768, 11));
-        proofEnd("old proof", x, 1, 0, 10);
+        Check.siblingWords("old proof", x, 0, Model.one(32768, 11));
+        Check.proofEnd("old proof", x, 1, 0, 10);
         Check.due("the old proof against the old version", x.verify(0, 0), 1);
         Check.due("the old proof against the map", x.verify(-1, 0), NO);
         x.back(0);
@@ -351,8 +351,9 @@ final class PromiseTest {
         x.put(49152, 3);
         x.put(65535, 4);
         x.prove(-1, 0);
-        siblingWords("beside the first bit", x, 0, Model.more(new int[8], Model.more(Model.one(49152, 3), Model.one(65535, 4))));
-        siblingWords("beside the last bit", x, 15, Model.one(1, 2));
+        int[] two = Model.more(Model.one(49152, 3), Model.one(65535, 4));
+        Check.siblingWords("beside the first bit", x, 0, Model.more(new int[8], two));
+        Check.siblingWords("beside the last bit", x, 15, Model.one(1, 2));
         for (int i : NO_WORDS) {
             Check.due("sibling(0, " + i + ")", x.sibling(0, i), 0);
             Check.due("sibling(15, " + i + ")", x.sibling(15, i), 0);
@@ -363,9 +364,9 @@ final class PromiseTest {
         }
         x.prove(-1, 49152);
         Check.due("a shorter proof: siblings()", x.siblings(), 3);
-        siblingWords("a shorter proof", x, 2, Model.one(65535, 4));
-        siblingWords("behind its end", x, 3, new int[8]);
-        siblingWords("where the longer one had its last", x, 15, new int[8]);
+        Check.siblingWords("a shorter proof", x, 2, Model.one(65535, 4));
+        Check.siblingWords("behind its end", x, 3, new int[8]);
+        Check.siblingWords("where the longer one had its last", x, 15, new int[8]);
     }
 
     /** Promise 12. */
@@ -373,14 +374,14 @@ final class PromiseTest {
         ProofMap x = new ProofMap();
         x.put(65535, -7);
         x.prove(-1, 65535);
-        proofEnd("65535", x, 1, 65535, -7);
+        Check.proofEnd("65535", x, 1, 65535, -7);
         int[] noEnds = {Integer.MIN_VALUE, -2, -1, 3, 4, Integer.MAX_VALUE};
         for (int what : noEnds) {
             Check.due("end(" + what + ")", x.end(what), BAD);
         }
         x.put(65534, -8);
         x.prove(-1, 0);
-        proofEnd("nothing", x, 0, 0, 0);
+        Check.proofEnd("nothing", x, 0, 0, 0);
     }
 
     /** Promise 13. */
@@ -412,32 +413,32 @@ final class PromiseTest {
         }
         Check.due("the map stays: word(-1, 0)", x.word(-1, 0), before);
         x.prove(-1, 0);
-        siblingWords("proved anew", x, 0, new int[8]);
-        siblingWords("proved anew", x, 15, last);
+        Check.siblingWords("proved anew", x, 0, new int[8]);
+        Check.siblingWords("proved anew", x, 15, last);
         x.prove(-1, 1);
-        siblingWords("of nothing", x, 0, new int[8]);
+        Check.siblingWords("of nothing", x, 0, new int[8]);
     }
 
     /** Promise 14. */
     private static void claim() {
         ProofMap x = new ProofMap();
         Check.due("claim(65535, -3)", x.claim(65535, -3), 1);
-        proofEnd("claimed", x, 1, 65535, -3);
+        Check.proofEnd("claimed", x, 1, 65535, -3);
         Check.due("claim(0, 4)", x.claim(0, 4), 1);
-        proofEnd("claimed", x, 1, 0, 4);
+        Check.proofEnd("claimed", x, 1, 0, 4);
         int[] noClaims = {Integer.MIN_VALUE, -65536, -2, 65536, Integer.MAX_VALUE};
         for (int key : noClaims) {
             Check.due("claim(" + key + ", 1)", x.claim(key, 1), BAD);
         }
-        proofEnd("after BAD", x, 1, 0, 4);
+        Check.proofEnd("after BAD", x, 1, 0, 4);
         Check.due("claim(-1, 5)", x.claim(-1, 5), 1);
-        proofEnd("nothing claimed", x, 0, 0, 0);
+        Check.proofEnd("nothing claimed", x, 0, 0, 0);
         x.put(0, 1);
         x.put(32768, 2);
         x.prove(-1, 0);
         x.claim(0, 2);
         Check.due("claimed: siblings() stay", x.siblings(), 1);
-        siblingWords("claimed", x, 0, Model.one(32768, 2));
+        Check.siblingWords("claimed", x, 0, Model.one(32768, 2));
         Check.due("claimed: the map stays", x.get(-1, 0), 1);
         Check.due("claimed: another value", x.verify(-1, 0), NO);
         x.claim(0, 1);
@@ -462,13 +463,13 @@ final class PromiseTest {
         Check.due("verify after cut(16)", x.verify(-1, 0), 1);
         Check.due("cut(15)", x.cut(15), 1);
         Check.due("siblings() after cut(15)", x.siblings(), 15);
-        siblingWords("cut off", x, 15, new int[8]);
+        Check.siblingWords("cut off", x, 15, new int[8]);
         Check.due("alter of what is cut off", x.alter(15, 0, 1), BAD);
         Check.due("cut(16) of 15", x.cut(16), BAD);
         Check.due("verify after cut(15)", x.verify(-1, 0), NO);
         Check.due("cut(1)", x.cut(1), 1);
-        siblingWords("the first stays", x, 0, Model.one(32768, 3));
-        proofEnd("the end stays", x, 1, 0, 1);
+        Check.siblingWords("the first stays", x, 0, Model.one(32768, 3));
+        Check.proofEnd("the end stays", x, 1, 0, 1);
         Check.due("cut(0)", x.cut(0), 1);
         Check.due("siblings() after cut(0)", x.siblings(), 0);
         Check.due("cut(1) of 0", x.cut(1), BAD);
@@ -589,23 +590,5 @@ final class PromiseTest {
         Check.due("versions() after two commits", x.versions(), 2);
         x.back(0);
         Check.due("versions() after back", x.versions(), 2);
-    }
-
-    private static void words(String what, ProofMap x, int version, int[] want) {
-        for (int i = 0; i < 8; i++) {
-            Check.due(what + ": word(" + version + ", " + i + ")", x.word(version, i), want[i]);
-        }
-    }
-
-    private static void siblingWords(String what, ProofMap x, int k, int[] want) {
-        for (int i = 0; i < 8; i++) {
-            Check.due(what + ": sibling(" + k + ", " + i + ")", x.sibling(k, i), want[i]);
-        }
-    }
-
-    private static void proofEnd(String what, ProofMap x, int entry, int key, int value) {
-        Check.due(what + ": end(0)", x.end(0), entry);
-        Check.due(what + ": end(1)", x.end(1), key);
-        Check.due(what + ": end(2)", x.end(2), value);
     }
 }
